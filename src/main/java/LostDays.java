@@ -392,7 +392,7 @@ public final class LostDays {
         int days = 0;
         int first = NONE;
         int end = from;
-        for (int day = from; day <= to; day = end + 1) {
+        for (int day = from; day <= to; day = Math.max(day, end) + 1) {
             end = Math.min(to, stretchEnd(c, d, day));
             if (haveSameDate(c, d, day)) {
                 days += end - day + 1;
@@ -407,7 +407,7 @@ public final class LostDays {
         if (!isTown(c) || !isTown(d)) {
             return BAD;
         }
-        for (int day = today; day <= LAST_DAY; day = stretchEnd(c, d, day) + 1) {
+        for (int day = today; day <= LAST_DAY; day = Math.max(day, stretchEnd(c, d, day)) + 1) {
             if (haveSameDate(c, d, day)) {
                 return day - today;
             }
@@ -421,7 +421,7 @@ public final class LostDays {
         }
         int most = -1;
         int first = from;
-        for (int day = from; day <= to; day = stretchEnd(c, d, day) + 1) {
+        for (int day = from; day <= to; day = Math.max(day, stretchEnd(c, d, day)) + 1) {
             int difference = Math.abs(towns[c].countOn(day) - towns[d].countOn(day));
             if (difference > most) {
                 most = difference;
@@ -805,8 +805,7 @@ public final class LostDays {
 
     /** Within a stretch two towns' dates go on day by day, so what holds on its first day holds on all. */
     private int stretchEnd(int c, int d, int day) {
-        int end = Math.min(towns[c].stretchEndFrom(day), towns[d].stretchEndFrom(day));
-        return Math.max(day, end);
+        return Math.min(towns[c].stretchEndFrom(day), towns[d].stretchEndFrom(day));
     }
 
     private boolean hasMissingDate(Row row) {

@@ -49,6 +49,11 @@ public final class RowsTest {
         Check.tells(x, "at(5, 2) anew", x.at(5, 2), 1, 0);
         Check.due("row(5, 40) anew", x.row(5, 40), 40);
         Check.tells(x, "at(5, 2) anew again", x.at(5, 2), 1, 0);
+        x.lay(5, 0, 8);
+        x.lay(5, 39, 9);
+        Check.due("row(5, 40) once more", x.row(5, 40), 40);
+        Check.tells(x, "at(5, 0)", x.at(5, 0), 1, 0);
+        Check.tells(x, "at(5, 39)", x.at(5, 39), 1, 0);
     }
 
     private static void layAndAt() {
@@ -119,12 +124,17 @@ public final class RowsTest {
         Check.tells(x, "mean of the most", x.mean(0), 1, Integer.MAX_VALUE);
         Make.fill(x, 0, Integer.MIN_VALUE, Integer.MIN_VALUE);
         Check.tells(x, "mean of the least", x.mean(0), 1, Integer.MIN_VALUE);
+        x.row(3, 40);
+        x.lay(3, 39, 119);
+        Check.tells(x, "mean of forty", x.mean(3), 1, 2);
+        x.lay(3, 0, 1);
+        Check.tells(x, "mean of forty, the first, too", x.mean(3), 1, 3);
         x.row(1, 0);
         Check.finds(x, NOUGHT, "mean of none", () -> x.mean(1));
         Check.finds(x, NOTHING, "mean of a missing row", () -> x.mean(2));
         Check.due("mean(6)", x.mean(6), LostDays.BAD);
         Check.due("mean(-1)", x.mean(-1), LostDays.BAD);
-        Check.due("asked() is kept", x.asked(), Integer.MIN_VALUE);
+        Check.due("asked() is kept", x.asked(), 3);
     }
 
     private static void dueRow(LostDays x, int r, int... places) {
