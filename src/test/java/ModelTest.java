@@ -1,9 +1,5 @@
-import java.lang.reflect.Method;
 import java.util.ArrayList;
-import java.util.Arrays;
-import java.util.HashMap;
 import java.util.List;
-import java.util.Map;
 import java.util.Random;
 
 /** Runs of calls by lots, the same ones on the class and on the model; after each all that is told is looked at. */
@@ -16,14 +12,13 @@ public final class ModelTest {
         "voyage ccDV", "dated ES", "kinds cr", "moon D", "feast cf", "together ccF", "keeps VkN", "fails lVk", "lots cczs",
         "asked ", "upper ", "lower ", "count w", "finding ", "findings w", "digest "};
 
-    private static final Map<String, Method[]> METHODS = new HashMap<>();
     private static Random lots;
     private static LostDays real;
     private static Model model;
     private static String trace;
     private static int calls;
 
-    public static void main(String[] args) throws Exception {
+    public static void main(String[] args) {
         int runs = args.length > 0 ? Integer.parseInt(args[0]) : 80;
         int start = args.length > 1 ? Integer.parseInt(args[1]) : 1;
         for (int run = start; run < start + runs; run++) {
@@ -32,7 +27,7 @@ public final class ModelTest {
         Check.end();
     }
 
-    private static void run(int seed) throws Exception {
+    private static void run(int seed) {
         lots = new Random(seed);
         real = new LostDays();
         model = new Model();
@@ -56,14 +51,12 @@ public final class ModelTest {
         }
     }
 
-    private static void call(String name, int... numbers) throws Exception {
-        Method[] methods = METHODS.computeIfAbsent(name, n -> find(n, numbers.length));
-        Object[] boxed = Arrays.stream(numbers).boxed().toArray();
+    private static void call(String name, int... numbers) {
         calls++;
-        String call = name + Arrays.toString(numbers);
+        String call = Call.told(name, numbers);
         trace += call + " ";
-        long want = ((Number) methods[1].invoke(model, boxed)).longValue();
-        long got = ((Number) methods[0].invoke(real, boxed)).longValue();
+        long want = Call.answer(model, name, numbers);
+        long got = Call.answer(real, name, numbers);
         if (got != want) {
             System.out.println(trace);
         }
@@ -78,17 +71,7 @@ public final class ModelTest {
         Check.due(call + ", digest()", real.digest(), model.digest());
     }
 
-    private static Method[] find(String name, int count) {
-        Class<?>[] types = new Class<?>[count];
-        Arrays.fill(types, int.class);
-        try {
-            return new Method[] {LostDays.class.getMethod(name, types), Model.class.getMethod(name, types)};
-        } catch (NoSuchMethodException e) {
-            throw new IllegalStateException(e);
-        }
-    }
-
-    private static void writeAlmanac() throws Exception {
+    private static void writeAlmanac() {
         StringBuilder s = new StringBuilder(" ".repeat(lots.nextInt(3)));
         int towns = lots.nextInt(12) == 0 ? lots.nextInt(8) : 2 + lots.nextInt(4);
         for (int i = 0; i < towns; i++) {
@@ -116,7 +99,7 @@ public final class ModelTest {
         call("almanac", t);
     }
 
-    private static void writeContracts() throws Exception {
+    private static void writeContracts() {
         int r = lots.nextInt(6);
         int many = lots.nextInt(6);
         List<Integer> row = new ArrayList<>();
@@ -132,7 +115,7 @@ public final class ModelTest {
         call("change", number('c'), r, span[0], span[1]);
     }
 
-    private static void writeLetters() throws Exception {
+    private static void writeLetters() {
         int r = lots.nextInt(6);
         int c = number('c');
         int many = lots.nextInt(4);
@@ -148,7 +131,7 @@ public final class ModelTest {
         call("kinds", number('c'), r);
     }
 
-    private static void writeRow(int r, List<Integer> row) throws Exception {
+    private static void writeRow(int r, List<Integer> row) {
         call("row", r, row.size());
         for (int i = 0; i < row.size(); i++) {
             call("lay", r, i, row.get(i));
