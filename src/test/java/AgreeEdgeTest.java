@@ -5,6 +5,8 @@ public final class AgreeEdgeTest {
     /** By leap 9 year 0 puts an ordered one a day behind, its gap of 1 on day 200 puts it right again till year 9. */
     private static final String AGAIN = "c200000 o902001 x204509";
 
+    private static final String LONG = "l200000 l400000";
+
     public static void main(String[] args) {
         numbers("31 agree", "agree");
         agree();
@@ -39,6 +41,10 @@ public final class AgreeEdgeTest {
                 .tells(101, 0, "agree", 0, 1, 0, 200).tells(1, 200, "agree", 0, 1, 100, 200)
                 .tells(0, LostDays.NONE, "agree", 0, 1, 100, 199).tells(800, 200, "agree", 0, 1, 100, 19999)
                 .tells(1, 999, "agree", 0, 1, 999, 1000).tells(0, LostDays.NONE, "agree", 0, 1, 1000, 1000);
+        // YEARS 0 are long in both, YEARS 2 but in one: day 301 is 2100 there, and 3000 here
+        new Edge("31 agree: long YEARS", Make.on(0, LONG)).tells(301, 0, "agree", 0, 1, 0, 300)
+                .tells(301, 0, "agree", 0, 1, 0, 301).tells(301, 0, "agree", 1, 0, 0, 19999)
+                .tells(0, LostDays.NONE, "agree", 0, 1, 301, 19999);
     }
 
     private static void till() {
@@ -53,6 +59,8 @@ public final class AgreeEdgeTest {
         new Edge("32 till: the eve of an ORDER", Make.on(449, AGAIN)).is(0, "till", 0, 2);
         new Edge("32 till: NONE from the ORDER on", Make.on(450, AGAIN)).none("till", 0, 2).none("till", 2, 0);
         new Edge("32 till: on the last DAY", Make.on(19999, AGAIN)).is(0, "till", 2, 2).none("till", 0, 2);
+        new Edge("32 till: a long YEAR's eve", Make.on(300, LONG)).is(0, "till", 0, 1);
+        new Edge("32 till: a long YEAR's last DAY", Make.on(301, LONG)).none("till", 0, 1).none("till", 1, 0);
         new Edge("32 till: on the first DAY", Make.on(0, AGAIN)).is(0, "till", 0, 1).is(0, "till", 1, 1);
     }
 

@@ -343,6 +343,9 @@ public final class AlmanacEdgeTest {
         dueMark(1, 5, 10998, "d399991");
         dueMark(2, 5, 10999, "d399991");
         dueMark(2, 5, 19999, "d399991");
+        // a GAP of 0 never left some out
+        dueMark(0, 5, 120, "d301200");
+        dueMark(0, 5, 1120, "d301200");
     }
 
     private static void order() {

@@ -107,6 +107,7 @@ public final class LettersEdgeTest {
             new Edge("40 kinds: UNLIKE: a DATE below 0, the first", row(0, date, 0, 1)).unlike("kinds", 0, 4);
         }
         new Edge("40 kinds: the first and the last DAY", row(0, 0, 19999, 199099)).is(1, "kinds", 2, 4);
+        new Edge("40 kinds: a DATE may be above all DAYS", row(19999, 199099, 0, 0)).is(1, "kinds", 2, 4);
         new Edge("40 kinds: a DATE that is none is of no KIND", row(0, MOST)).is(0, "kinds", 0, 4);
         new Edge("40 kinds: UNLIKE, though no KIND fits", row(0, 5, 20000, 0)).unlike("kinds", 0, 4);
     }

@@ -91,12 +91,12 @@ public final class RowsTest {
         LostDays x = new LostDays();
         Make.fill(x, 0, 1, 2, 3, 4, 5);
         Check.due("copy(0, 0, 0, 1, 4)", x.copy(0, 0, 0, 1, 4), 1);
-        dueRow(x, 0, 1, 1, 2, 3, 4);
+        Make.dueRow(x, "row 0", 0, 1, 1, 2, 3, 4);
         Check.due("copy(0, 2, 0, 0, 3)", x.copy(0, 2, 0, 0, 3), 1);
-        dueRow(x, 0, 2, 3, 4, 3, 4);
+        Make.dueRow(x, "row 0", 0, 2, 3, 4, 3, 4);
         x.row(1, 2);
         Check.due("copy(0, 3, 1, 0, 2)", x.copy(0, 3, 1, 0, 2), 1);
-        dueRow(x, 1, 3, 4);
+        Make.dueRow(x, "row 1", 1, 3, 4);
         Check.due("copy(0, 5, 1, 2, 0)", x.copy(0, 5, 1, 2, 0), 1);
         Check.due("copy(6, 0, 1, 0, -1)", x.copy(6, 0, 1, 0, -1), LostDays.BAD);
         Check.due("copy(0, 0, -1, 0, 1)", x.copy(0, 0, -1, 0, 1), LostDays.BAD);
@@ -110,8 +110,8 @@ public final class RowsTest {
         Check.finds(x, BEYOND, "copy(0, most, 1, 0, most)",
                 () -> x.copy(0, Integer.MAX_VALUE, 1, 0, Integer.MAX_VALUE));
         Check.finds(x, BEYOND, "copy(0, 6, 1, 0, 0)", () -> x.copy(0, 6, 1, 0, 0));
-        dueRow(x, 0, 2, 3, 4, 3, 4);
-        dueRow(x, 1, 3, 4);
+        Make.dueRow(x, "row 0", 0, 2, 3, 4, 3, 4);
+        Make.dueRow(x, "row 1", 1, 3, 4);
     }
 
     private static void mean() {
@@ -135,11 +135,5 @@ public final class RowsTest {
         Check.due("mean(6)", x.mean(6), LostDays.BAD);
         Check.due("mean(-1)", x.mean(-1), LostDays.BAD);
         Check.due("asked() is kept", x.asked(), 3);
-    }
-
-    private static void dueRow(LostDays x, int r, int... places) {
-        for (int i = 0; i < places.length; i++) {
-            Check.due("row " + r + ", place " + i, Make.place(x, r, i), places[i]);
-        }
     }
 }

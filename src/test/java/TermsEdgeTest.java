@@ -5,6 +5,7 @@ public final class TermsEdgeTest {
     private static final int LEAST = Edge.LEAST, MOST = Edge.MOST;
 
     public static void main(String[] args) {
+        constants();
         orderOfRefusals();
         theirOwnOrder();
         refusedChangesNothing();
@@ -21,6 +22,12 @@ public final class TermsEdgeTest {
         setsByBits();
         lots();
         Check.end();
+    }
+
+    private static void constants() {
+        int[] got = {LostDays.BAD, LostDays.FULL, LostDays.FINDING, LostDays.STATE, LostDays.SPENT, LostDays.NONE};
+        int[] want = {-1, -2, -3, -4, -6, -9};
+        Check.that("terms: BAD -1, FULL -2, FINDING -3, STATE -4, SPENT -6, NONE -9", java.util.Arrays.equals(got, want));
     }
 
     private static void orderOfRefusals() {

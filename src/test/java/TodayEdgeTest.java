@@ -10,6 +10,7 @@ public final class TodayEdgeTest {
         on();
         keptIsAsItWas();
         keptAnew();
+        keptOfEachTown();
         Check.end();
     }
 
@@ -101,5 +102,23 @@ public final class TodayEdgeTest {
         Check.tells(x, "20 on: the newer one's ORDER", x.town(2, 2), 1, 450);
         x.keep(1);
         Check.due("19 keep: all three", x.count(6), 3);
+    }
+
+    private static void keptOfEachTown() {
+        for (int c = 0; c < 5; c++) {
+            LostDays x = Make.full();
+            x.order(c, 9998);
+            x.gap(c, 8);
+            x.leap(c, 8);
+            x.keep(1);
+            long digest = x.digest();
+            x.order(c, 1);
+            x.gap(c, 1);
+            x.leap(c, 7);
+            x.go(1);
+            Check.that("19 keep: TOWN " + c + " goes on", x.digest() != digest);
+            x.on(1);
+            Check.due("20 on: TOWN " + c + " is as it was kept", x.digest(), digest);
+        }
     }
 }
