@@ -951,7 +951,7 @@ public final class LostDays {
         return many;
     }
 
-    /** A calendar of any kind; the leap divides, so it is 2 .. 9 from the first on. */
+    /** A calendar of any kind. */
     private static final class Calendar {
         int kind = PLAIN;
         int leap = LEAST_LEAP;
@@ -967,6 +967,11 @@ public final class LostDays {
 
         boolean isOf(int wanted) {
             return wanted == PLAIN || kind == wanted || PARENTS[kind] == wanted;
+        }
+
+        /** The leap divides where this holds, and only there. */
+        boolean hasLeaps() {
+            return isOf(LEAPED) && isLeap(leap);
         }
 
         int timesCut() {
@@ -1008,15 +1013,15 @@ public final class LostDays {
         }
 
         int lengthOf(int y) {
-            return isOf(LEAPED) && y % leap == 0 ? LONG_YEAR_DAYS : shortLength();
+            return hasLeaps() && y % leap == 0 ? LONG_YEAR_DAYS : shortLength();
         }
 
         int startOf(int y) {
-            return shortLength() * y + (isOf(LEAPED) ? longYearsBefore(y, leap) : 0);
+            return shortLength() * y + (hasLeaps() ? longYearsBefore(y, leap) : 0);
         }
 
         int dateOfCount(int count) {
-            if (!isOf(LEAPED)) {
+            if (!hasLeaps()) {
                 int length = shortLength();
                 return YEAR_STEP * (count / length) + count % length;
             }
@@ -1067,7 +1072,7 @@ public final class LostDays {
         int markOf(int wanted, int today) {
             switch (wanted) {
                 case LEAPED:
-                    return (leap - dateOn(today) / YEAR_STEP % leap) % leap;
+                    return hasLeaps() ? (leap - dateOn(today) / YEAR_STEP % leap) % leap : 0;
                 case CUT:
                     return Math.max(0, order - today);
                 case MOON:
