@@ -23,7 +23,7 @@ public final class LanguageTest {
         String source = Files.readString(Path.of("src/main/java/LostDays.java"));
         words(source);
         madeInConstructorsAlone(source);
-        shortMethods(source);
+        methods(source);
         Check.end();
     }
 
@@ -96,13 +96,28 @@ public final class LanguageTest {
         }
     }
 
-    private static void shortMethods(String source) {
+    private static void methods(String source) {
         Matcher m = Pattern.compile("(?m)^( +)((?:\\w+(?:\\[\\])? )+\\w+)\\(([^)]*)\\) \\{\n").matcher(source);
         while (m.find()) {
             int end = source.indexOf("\n" + m.group(1) + "}\n", m.end() - 1);
-            long lines = source.substring(m.end(), Math.max(m.end(), end)).lines().count();
-            Check.that(m.group(2) + " is short", end >= 0 && lines <= 60);
+            String body = source.substring(m.end(), Math.max(m.end(), end));
+            Check.that(m.group(2) + " is short", end >= 0 && body.lines().count() <= 60);
             Check.that(m.group(2) + " takes at most seven", m.group(3).split(",").length <= 7);
+            divisorsAreLookedAt(m.group(2), body);
+        }
+    }
+
+    /** A divisor that is no constant is compared in its own method, or is the leap of one that has leaps. */
+    private static void divisorsAreLookedAt(String method, String body) {
+        Matcher m = Pattern.compile("[/%] ([a-z]\\w*)").matcher(body.replaceAll("//[^\n]*", ""));
+        while (m.find()) {
+            String divisor = m.group(1);
+            boolean isCompared = Pattern.compile("(?<![/%] )\\b" + divisor + " ([!=]=|<=?|>=?) ").matcher(body).find();
+            boolean isOfLeap = (divisor.equals("leap") || body.contains("int " + divisor + " = YEAR_DAYS * leap + 1;"))
+                    && body.contains("hasLeaps()");
+            // 98 or 100
+            boolean isLength = body.contains("int " + divisor + " = shortLength();");
+            Check.that(method + " looks at its divisor " + divisor, isCompared || isOfLeap || isLength);
         }
     }
 }
